@@ -151,6 +151,9 @@ public final class DoneTest {
             x.mark(3, k);
         }
         Due.is("11: parade(4, 2, 0 and 3), 3 is far now", x.parade(4, 2, 9), 0);
+        ParadeRow eight = Due.placed("p0 0;p1 0;p1 0;p1 0;p1 0;p1 0;p1 0;p0 0;k1 0;");
+        Due.is("11: the last of eight", eight.parade(1, 0, 252), 7);
+        Due.is("11: the last of eight is 0", eight.person(7, 2), 0);
     }
 
     private static void refusedParades() {

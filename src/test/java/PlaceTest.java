@@ -21,6 +21,8 @@ public final class PlaceTest {
         aFaultChangesNothing();
         faultOfTheLatest();
         telling();
+        threeOfOne();
+        twiceTwoOfOne();
         persons();
         memories();
         Due.end("PlaceTest");
@@ -183,7 +185,9 @@ public final class PlaceTest {
         x.seed(77);
         x.parade(3, 1, 21);
         x.keep(0);
+        x.keep(1);
         x.year(3);
+        x.alike(5);
         x.meet(1, 2);
         x.see(0, 1, 14, 3);
         x.write(1, 0);
@@ -207,6 +211,7 @@ public final class PlaceTest {
         Due.is("3: remembers(1, 0) anew", x.remembers(1, 0), 9);
         Due.is("3: undo() anew", x.undo(), Due.NOT);
         Due.is("3: goBack(0) anew", x.goBack(0), Due.NOT);
+        Due.is("3: goBack(1) anew", x.goBack(1), Due.NOT);
         Due.is("3: judge() anew", x.judge(), Due.NONE);
         Due.is("3: honest() anew", x.honest(), 3);
         Due.is("3: seed stays", x.seed(0), 77);
@@ -250,6 +255,9 @@ public final class PlaceTest {
         Due.is("4: fault() while feeding", x.fault(), 5);
         Due.is("4: place() without", x.place(), 1);
         Due.is("4: fault() without", x.fault(), Due.NONE);
+        Due.feed(x, "p1 2");
+        Due.is("3: place() with its end in the text ahead of it", x.place(), -11);
+        Due.is("4: fault() at the end", x.fault(), 4);
     }
 
     private static void telling() {
@@ -272,7 +280,6 @@ public final class PlaceTest {
         Due.refused("5: told(-1)", () -> Due.placed(TOWN), y -> y.told(-1), Due.OUTSIDE);
         Due.refused("5: told(9)", () -> Due.placed(TOWN), y -> y.told(9), Due.OUTSIDE);
         Due.refused("5: told(MIN)", () -> Due.placed(TOWN), y -> y.told(Integer.MIN_VALUE), Due.OUTSIDE);
-        threeOfOne();
     }
 
     private static void threeOfOne() {
@@ -282,6 +289,15 @@ public final class PlaceTest {
         Due.is("5: told(4), nobody is 3", x.told(4), 8);
         Due.is("5: parade of 0 and 1", x.parade(4, 2, 3), 1);
         Due.is("5: told(3), 1, 2 and 3 are 2", x.told(3), 14);
+        Due.is("5: told(4), nobody is 1 or 3", x.told(4), 10);
+    }
+
+    private static void twiceTwoOfOne() {
+        ParadeRow x = Due.placed("p0 0;p0 0;p3 0;p3 0;k3 0;k1 2;");
+        Due.is("5: parade, 1 is picked as 0", x.parade(3, 0, 6), 1);
+        Due.is("5: told(3), 0 and 1 are 0", x.told(3), 3);
+        Due.is("5: parade, 3 is picked as 2", x.parade(1, 2, 9), 3);
+        Due.is("5: told(3), two and two", x.told(3), 15);
         Due.is("5: told(4), nobody is 1 or 3", x.told(4), 10);
     }
 

@@ -106,6 +106,8 @@ public final class SeenTest {
         Due.is("29: showNext(0, 3), without P", x.showNext(0, 3), 22);
         Due.is("29: two others", Due.placed("p0 0;p1 0;p3 0;k0 1;").showNext(0, 1), Due.NONE);
         Due.is("29: three alike", Due.placed("p5 0;p5 0;p5 0;p5 0;k1 3;").showNext(1, 3), 13);
+        Due.is("29: a little is more than nothing", Due.placed("p0 0;p5 0;p5 0;p5 0;p4 0;k0 1;").showNext(0, 1), 22);
+        Due.is("29: 0 is far", Due.placed("p255 0;p0 0;p0 0;p0 0;p1 0;k3 1;").showNext(3, 1), 7);
         Due.is("29: all apart", Due.placed("p255 0;p0 0;p255 0;p255 0;p255 0;k0 1;").showNext(0, 1), 14);
         Due.is("29: told(8)", x.told(8), 3);
     }

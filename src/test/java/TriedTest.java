@@ -19,6 +19,7 @@ public final class TriedTest {
         whomToAsk();
         refusedAsking();
         ringsOfTwoAndThree();
+        ringOfAll();
         selfAndAstray();
         refusedRings();
         masks();
@@ -134,6 +135,7 @@ public final class TriedTest {
         ParadeRow x = Due.placed("p0 0;p255 0;p0 0;k2 0;");
         Due.is("17: weight 9 of 10", x.odds(2, 0, 3, 0), 900000);
         Due.is("17: weight 1 of 10", x.odds(2, 0, 3, 1), 100000);
+        Due.is("17: weight 8 of 12", Due.placed("p1 0;p31 0;p0 0;p0 0;k2 3;").odds(2, 3, 3, 0), 666666);
     }
 
     private static void refusedOdds() {
@@ -198,6 +200,15 @@ public final class TriedTest {
         tellRings("three, 0 is known by nobody", x, new int[] {3, 3, 3, 1, 1}, new int[] {3, 3, 2});
     }
 
+    private static void ringOfAll() {
+        ParadeRow x = Due.placed("p0 0;p0 0;p0 0;k2 1;k0 2;k1 0;");
+        Due.is("19: 0 is picked as 1", x.parade(2, 1, 3), 0);
+        Due.is("19: 1 is picked as 2", x.parade(0, 2, 6), 1);
+        x.mark(0, 7);
+        Due.is("19: 2 is picked as 0", x.parade(1, 0, 5), 2);
+        tellRings("all of three", x, new int[] {3, 3, 3}, new int[] {3, 3, 3});
+    }
+
     private static void selfAndAstray() {
         tellRings("all themselves", Due.placed(RINGS), new int[] {1, 1, 1, 1, 1}, new int[] {0, 0, 0});
         ParadeRow x = twoSwapped();
@@ -230,6 +241,11 @@ public final class TriedTest {
         far.mark(0, 3);
         far.mark(0, 5);
         Due.is("21: SURE 8, one of two", far.mask(2, 0, 3, 8), 8);
+        ParadeRow all = Due.placed("p0 0;p127 0;p0 0;k2 0;");
+        for (int k = 0; k < 8; k++) {
+            all.mark(0, k);
+        }
+        Due.is("21: all eight marks", all.mask(2, 0, 3, 8), 255);
         Due.is("21: the row's others count alike", steps().mask(4, 2, 15, 2), 0);
     }
 
@@ -310,6 +326,8 @@ public final class TriedTest {
         x.meet(3, 2);
         Due.is("24: met, how many", x.lost(-1), 2);
         Due.is("24: met, the second", x.lost(1), 42);
+        ParadeRow back = stepsWith(0, 1, 2, 3);
+        Due.is("24: 1 lost 0", back.lost(0), 10);
         Due.is("24: of nobody", new ParadeRow().lost(-1), 0);
         Due.is("24: the first of nobody", new ParadeRow().lost(0), Due.NONE);
         x.forget(0, 2);
