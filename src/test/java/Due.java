@@ -13,8 +13,18 @@ final class Due {
 
     private static int right = 0;
     private static int wrong = 0;
+    private static String heading = "";
 
     private Due() {
+    }
+
+    /** What stands ahead of each answer that is told as wrong. */
+    static void under(String newHeading) {
+        heading = newHeading;
+    }
+
+    static int answers() {
+        return right + wrong;
     }
 
     static void is(String call, long got, long want) {
@@ -22,7 +32,7 @@ final class Due {
             right++;
         } else {
             wrong++;
-            System.out.println(call + " answered " + got + ", due is " + want);
+            System.out.println(heading + call + " answered " + got + ", due is " + want);
         }
     }
 
@@ -31,7 +41,7 @@ final class Due {
             right++;
         } else {
             wrong++;
-            System.out.println(what + ": " + got + ", due is " + want);
+            System.out.println(heading + what + ": " + got + ", due is " + want);
         }
     }
 

@@ -1,0 +1,47 @@
+import java.io.IOException;
+import java.nio.file.Files;
+import java.nio.file.Path;
+
+/** A sentence of the document that names a boundary case, with the test of it. */
+final class Sentence {
+    private static final Path PATH = Path.of("../shared/DOC.md");
+    private static final int PROMISES = 35;
+    private static final String DOCUMENT = document();
+    private static final int[] TESTS = new int[PROMISES + 1];
+
+    private Sentence() {
+    }
+
+    private static String document() {
+        if (!Files.isReadable(PATH)) {
+            System.out.println(PATH + " is not here: what is quoted of it is not compared");
+            return "";
+        }
+        try {
+            return Files.readString(PATH).replaceAll("\\s+", " ");
+        } catch (IOException wrong) {
+            throw new IllegalStateException(wrong);
+        }
+    }
+
+    static void holds(int promise, String quote, Runnable test) {
+        TESTS[promise]++;
+        Due.under("Promise " + promise + ", \"" + quote + "\": ");
+        if (!DOCUMENT.isEmpty()) {
+            Due.is("stands in the document", DOCUMENT.contains(quote) ? 1 : 0, 1);
+        }
+        int before = Due.answers();
+        test.run();
+        Due.is("has a test", Due.answers() > before ? 1 : 0, 1);
+        Due.under("");
+    }
+
+    static void end(String name, int firstPromise, int lastPromise) {
+        int sentences = 0;
+        for (int promise = firstPromise; promise <= lastPromise; promise++) {
+            Due.is("sentences of promise " + promise, TESTS[promise] > 0 ? 1 : 0, 1);
+            sentences += TESTS[promise];
+        }
+        Due.end(name + ", " + sentences + " sentences");
+    }
+}
