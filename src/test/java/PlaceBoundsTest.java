@@ -216,6 +216,11 @@ public final class PlaceBoundsTest {
             faulty(TWO + "k0 1", 1, 14);
             faulty(TWO + "k0 1 ", 1, 15);
             faulty(" ".repeat(239) + "p", 1, 240);
+            ParadeRow x = Due.placed("p1 2;p3 4;");
+            Due.feed(x, "p1 2");
+            Script.run(x, "place()=-11 fault()=4");
+            Due.feed(x, "p1 2;p3");
+            Script.run(x, "place()=-11 fault()=7");
         });
     }
 

@@ -1,7 +1,9 @@
 import java.lang.reflect.InvocationTargetException;
 import java.lang.reflect.Method;
 import java.util.HashMap;
+import java.util.HashSet;
 import java.util.Map;
+import java.util.Set;
 import java.util.function.Supplier;
 import java.util.regex.Matcher;
 import java.util.regex.Pattern;
@@ -12,6 +14,9 @@ final class Script {
     private static final Map<String, Method> METHODS = methods();
     private static final Map<String, Integer> WORDS = Map.of("NONE", Due.NONE, "UNKNOWN", Due.UNKNOWN,
         "OUTSIDE", Due.OUTSIDE, "NOT", Due.NOT, "FULL", Due.FULL, "MIN", Integer.MIN_VALUE, "MAX", Integer.MAX_VALUE);
+
+    /** Which calls were tried with which refusal: "year FULL". */
+    private static final Set<String> REFUSALS = new HashSet<>();
 
     private Script() {
     }
@@ -39,15 +44,23 @@ final class Script {
     /** Each call of the line, on an object of its own: refused as told, and nothing is changed by it. */
     static void refused(Supplier<ParadeRow> maker, String line) {
         for (String call : line.trim().split("\\s+")) {
-            ParadeRow x = maker.get();
-            run(x, call);
-            Due.same("what is so behind the refused " + call, Picture.of(x), Picture.of(maker.get()));
+            Matcher parts = partsOf(call);
+            REFUSALS.add(parts.group(1) + " " + parts.group(3));
         }
+        tried(maker, line);
+    }
+
+    static boolean hasRefused(String name, String refusal) {
+        return REFUSALS.contains(name + " " + refusal);
     }
 
     /** Each call of the line, on an object of its own: answered as told, and nothing is changed by it. */
     static void tried(Supplier<ParadeRow> maker, String line) {
-        refused(maker, line);
+        for (String call : line.trim().split("\\s+")) {
+            ParadeRow x = maker.get();
+            run(x, call);
+            Due.same("what is so behind " + call, Picture.of(x), Picture.of(maker.get()));
+        }
     }
 
     private static Matcher partsOf(String call) {

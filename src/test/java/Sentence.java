@@ -1,6 +1,8 @@
 import java.io.IOException;
 import java.nio.file.Files;
 import java.nio.file.Path;
+import java.util.regex.Matcher;
+import java.util.regex.Pattern;
 
 /** A sentence of the document that names a boundary case, with the test of it. */
 final class Sentence {
@@ -36,11 +38,24 @@ final class Sentence {
         Due.under("");
     }
 
+    /** Each refusal that the promise lists was tried, and looked at for what it changes. */
+    private static void refusals(int promise) {
+        Matcher section = Pattern.compile("## Promise " + promise + ": (\\w+) (.*?)(?=## |$)").matcher(DOCUMENT);
+        if (promise > 1 && section.find()) {
+            Matcher words = Pattern.compile("\\b(UNKNOWN|OUTSIDE|NOT|FULL)\\b").matcher(section.group(2));
+            while (words.find()) {
+                Due.is("a test of " + section.group(1) + "() with the answer " + words.group(),
+                    Script.hasRefused(section.group(1), words.group()) ? 1 : 0, 1);
+            }
+        }
+    }
+
     static void end(String name, int firstPromise, int lastPromise) {
         int sentences = 0;
         for (int promise = firstPromise; promise <= lastPromise; promise++) {
             Due.is("sentences of promise " + promise, TESTS[promise] > 0 ? 1 : 0, 1);
             sentences += TESTS[promise];
+            refusals(promise);
         }
         Due.end(name + ", " + sentences + " sentences");
     }
