@@ -4,7 +4,7 @@ import java.nio.file.Path;
 import java.util.regex.Matcher;
 import java.util.regex.Pattern;
 
-/** A sentence of the document that names a boundary case, with the test of it. */
+/** A sentence of the document, with the test of it. */
 final class Sentence {
     private static final Path PATH = Path.of("../shared/DOC.md");
     private static final int PROMISES = 35;
@@ -26,9 +26,10 @@ final class Sentence {
         }
     }
 
+    /** Promise 0: what the document tells ahead of all promises. */
     static void holds(int promise, String quote, Runnable test) {
         TESTS[promise]++;
-        Due.under("Promise " + promise + ", \"" + quote + "\": ");
+        Due.under((promise == 0 ? "Terms" : "Promise " + promise) + ", \"" + quote + "\": ");
         if (!DOCUMENT.isEmpty()) {
             Due.is("stands in the document", DOCUMENT.contains(quote) ? 1 : 0, 1);
         }
